@@ -3,7 +3,8 @@ import java.util.NoSuchElementException;
 
 /**
  * Moves computations in a program of blocks to where they are needed latest and made least often, and runs the
- * program as it was and as it is now side by side.
+ * program as it was and as it is now side by side. The document's promises say what each call answers and throws;
+ * where a call could throw two exceptions, it throws the one that its promise names first.
  */
 public final class LazyMotion {
     /** Nothing there; the outside of a program. */
@@ -37,7 +38,6 @@ public final class LazyMotion {
     private boolean planned;
     private int plans;
 
-    /** An object without blocks, with nothing planned. */
     public LazyMotion() {
         Program empty = new Program();
         Motion still = new Motion(empty);
@@ -48,7 +48,6 @@ public final class LazyMotion {
         plans = 0;
     }
 
-    /** Makes a block that stops; answers its number. */
     public int block() throws IllegalStateException {
         if (program.blocks >= BLOCK_LIMIT) {
             throw new IllegalStateException("there are 16 blocks");
@@ -57,7 +56,6 @@ public final class LazyMotion {
         return program.addBlock();
     }
 
-    /** Puts a statement at the end of the latest block; answers how many that has. */
     public int statement(int kind, int x, int a, int b, int c) throws IllegalArgumentException, IllegalStateException {
         if (!isStatement(kind, x, a, b, c)) {
             throw new IllegalArgumentException("no such statement");
@@ -76,7 +74,6 @@ public final class LazyMotion {
         return program.addStatement(kind, x, operand);
     }
 
-    /** Gives a block another end; answers how many successors it has. */
     public int end(int block, int kind, int x, int a, int b) throws IllegalArgumentException {
         if (!program.hasBlock(block) || !isEnd(kind, x, a, b)) {
             throw new IllegalArgumentException("no such block or end");
@@ -91,7 +88,6 @@ public final class LazyMotion {
         return program.changeEnd(block, x, a, b);
     }
 
-    /** Plans the program as it is; answers how many expressions are moved. */
     public int plan() throws IllegalStateException, UnsupportedOperationException {
         if (program.blocks == 0) {
             throw new IllegalStateException("there is no block");
@@ -105,7 +101,6 @@ public final class LazyMotion {
         return motion.countMoved();
     }
 
-    /** A set of expressions for block b, a bit for each. */
     public long set(int b, int what) throws IllegalStateException, IndexOutOfBoundsException {
         if (!planned) {
             throw new IllegalStateException("the program was not planned as it is");
@@ -116,7 +111,6 @@ public final class LazyMotion {
         return motion.setOf(b, what);
     }
 
-    /** What is put on the edge from a (NONE: from outside) to b, a bit for each expression. */
     public long put(int a, int b) throws IllegalStateException, NoSuchElementException {
         if (!planned) {
             throw new IllegalStateException("the program was not planned as it is");
@@ -127,7 +121,6 @@ public final class LazyMotion {
         return motion.putOn(a, b);
     }
 
-    /** The number of the expression y op z. */
     public int expression(int y, int op, int z) throws NoSuchElementException {
         int number = program.findExpression(y, op, z);
         if (number == NONE) {
@@ -136,7 +129,6 @@ public final class LazyMotion {
         return number;
     }
 
-    /** Runs the program, or the new one if fresh; answers how many computations were made. */
     public int run(boolean fresh, int a, int b, int c) throws IllegalStateException {
         // No block needs no test of its own: what was never planned has no valid plan.
         if (!planned) {
@@ -147,12 +139,10 @@ public final class LazyMotion {
         return machine.computations;
     }
 
-    /** How many numbers the latest run gave out. */
     public int outs() {
         return machine.given;
     }
 
-    /** The i-th number that the latest run gave out, of the first hundred. */
     public int out(int i) throws IndexOutOfBoundsException {
         if (i < 0 || i >= OUT_LIMIT || i >= machine.given) {
             throw new IndexOutOfBoundsException("no such number");
@@ -160,7 +150,6 @@ public final class LazyMotion {
         return machine.numbers[i];
     }
 
-    /** The value of variable x at the end of the latest run. */
     public int variable(int x) throws IndexOutOfBoundsException {
         if (!isVariable(x)) {
             throw new IndexOutOfBoundsException("no such variable");
@@ -168,7 +157,6 @@ public final class LazyMotion {
         return machine.variables[x];
     }
 
-    /** How often the latest run made the computation of expression e. */
     public int computed(int e) {
         if (e < 0 || e >= EXPRESSION_LIMIT) {
             return 0;
@@ -176,7 +164,6 @@ public final class LazyMotion {
         return machine.made[e];
     }
 
-    /** How many blocks (0), expressions (1), plans (2), and blocks of the latest run (3) there are. */
     public int count(int what) throws IndexOutOfBoundsException {
         switch (what) {
             case 0:
@@ -568,7 +555,6 @@ public final class LazyMotion {
         void reset(int a, int b, int c) {
             computations = 0;
             given = 0;
-            passed = 0;
             Arrays.fill(variables, 0);
             Arrays.fill(made, 0);
             Arrays.fill(temporaries, 0);

