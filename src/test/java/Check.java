@@ -2,6 +2,8 @@
 final class Check {
     private static int wrong = 0;
     private static int looked = 0;
+    private static int sentences = 0;
+    private static String place = "";
 
     private Check() {
     }
@@ -9,6 +11,22 @@ final class Check {
     /** A call that may throw. */
     interface Call {
         long answer();
+    }
+
+    /** The test of one sentence of the document; if it breaks off, the tests of the other sentences still go on. */
+    static void sentence(String sentence, Runnable test) {
+        sentences++;
+        place = "\"" + sentence + "\": ";
+        int before = looked;
+        try {
+            test.run();
+        } catch (RuntimeException | Error e) {
+            report("the test broke off with " + e);
+        }
+        if (looked == before) {
+            report("nothing was looked at");
+        }
+        place = "";
     }
 
     static void due(String what, long got, long want) {
@@ -25,6 +43,7 @@ final class Check {
         }
     }
 
+    /** The very class is due: one derived from it is another exception than the document's. */
     static void throwing(String what, Class<? extends RuntimeException> want, Call call) {
         due(what, told(call), "throws." + want.getSimpleName());
     }
@@ -39,7 +58,8 @@ final class Check {
     }
 
     static void end(String test) {
-        System.out.println(test + ": " + looked + " answers looked at, " + wrong + " not as due");
+        String tested = sentences == 0 ? "" : sentences + " sentences, ";
+        System.out.println(test + ": " + tested + looked + " answers looked at, " + wrong + " not as due");
         if (wrong != 0) {
             System.exit(1);
         }
@@ -49,7 +69,7 @@ final class Check {
         wrong++;
         // A broken program can be wrong thousands of times: the first lines tell enough.
         if (wrong <= 50) {
-            System.out.println(line);
+            System.out.println(place + line);
         }
     }
 }
