@@ -11,7 +11,7 @@ import java.util.TreeSet;
 import java.util.regex.Matcher;
 import java.util.regex.Pattern;
 
-/** The face of the class is the document's and no more, and the source keeps to what LANGUAGE.md lets be seen in a text. */
+/** The face is the document's and no more, and the source keeps to what of LANGUAGE.md can be seen in a text. */
 public final class FaceTest {
     private static final Path SOURCE = Path.of("src/main/java/LazyMotion.java");
     private static final String[] FACE = {
@@ -64,8 +64,17 @@ public final class FaceTest {
             boolean seen = !Modifier.isPrivate(f.getModifiers());
             Check.due("field " + f.getName() + " can be seen", seen ? 1 : 0, f.getName().equals("NONE") ? 1 : 0);
         }
+        Check.due("NONE", noneOfFace(), "public static final int LazyMotion.NONE");
         Constructor<?>[] all = LazyMotion.class.getDeclaredConstructors();
         Check.due("constructors", Arrays.toString(all), "[public LazyMotion()]");
+    }
+
+    private static String noneOfFace() {
+        try {
+            return LazyMotion.class.getField("NONE").toString();
+        } catch (NoSuchFieldException e) {
+            return "nothing";
+        }
     }
 
     private static void classesInside() {

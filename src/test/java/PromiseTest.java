@@ -42,7 +42,8 @@ public final class PromiseTest extends Sentences {
         Check.sentence("3: IllegalStateException, when there is no block", PromiseTest::statementWithoutBlock);
         Check.sentence("3: IllegalStateException, when it has five statements", PromiseTest::statement6);
         Check.sentence("3: IllegalStateException, when an expression would be the 25th", PromiseTest::expression25);
-        Check.sentence("3: IllegalArgumentException; IllegalStateException (in this order)", PromiseTest::statementOrder);
+        Check.sentence("3: IllegalArgumentException; IllegalStateException (in this order)",
+                PromiseTest::statementOrder);
     }
 
     private static void end() {
@@ -70,7 +71,8 @@ public final class PromiseTest extends Sentences {
         Check.sentence("6: there before (0), behind (1), wanted before (2), behind (3), late before (4), "
                 + "taken out of b (5)", PromiseTest::whichSet);
         Check.sentence("6: 0 for a block that can't be reached", PromiseTest::setOfUnreached);
-        Check.sentence("6: IllegalStateException, when the program was not planned as it is", PromiseTest::setUnplanned);
+        Check.sentence("6: IllegalStateException, when the program was not planned as it is",
+                PromiseTest::setUnplanned);
         Check.sentence("6: IndexOutOfBoundsException, when there is no such block", PromiseTest::setOfNoBlock);
         Check.sentence("6: IndexOutOfBoundsException, when there is no such what", PromiseTest::setOfNoWhat);
         Check.sentence("7: What is put on the edge from a to b", PromiseTest::putOnEdge);
@@ -93,7 +95,8 @@ public final class PromiseTest extends Sentences {
         Check.sentence("9: It stops behind 200 blocks, too", PromiseTest::blocks200);
         Check.sentence("9: It stops behind 200 blocks, and goes along no edge from there", PromiseTest::edgeBehind200);
         Check.sentence("9: IllegalStateException, when there is no block", PromiseTest::runWithoutBlock);
-        Check.sentence("9: IllegalStateException, when the program was not planned as it is", PromiseTest::runUnplanned);
+        Check.sentence("9: IllegalStateException, when the program was not planned as it is",
+                PromiseTest::runUnplanned);
     }
 
     private static void outs() {
@@ -305,7 +308,8 @@ public final class PromiseTest extends Sentences {
         for (int bad : NO_VARIABLES) {
             for (int kind = COPY; kind <= OUT; kind++) {
                 int k = kind;
-                refused(ARGUMENT, "kind " + k + ", x " + bad, PromiseTest::ranDiamond, o -> o.statement(k, bad, 0, 0, 0));
+                refused(ARGUMENT, "kind " + k + ", x " + bad, PromiseTest::ranDiamond,
+                        o -> o.statement(k, bad, 0, 0, 0));
             }
             refused(ARGUMENT, "COPY, y " + bad, PromiseTest::ranDiamond, o -> o.statement(COPY, 0, bad, 0, 0));
             refused(ARGUMENT, "COMPUTE, y " + bad, PromiseTest::ranDiamond, o -> o.statement(COMPUTE, 0, bad, 0, 0));
@@ -370,7 +374,8 @@ public final class PromiseTest extends Sentences {
     private static void statementOrder() {
         refused(ARGUMENT, "wrong, and no block", LazyMotion::new, o -> o.statement(OUT, 6, 0, 0, 0));
         refused(ARGUMENT, "wrong, and five statements", PromiseTest::fullLatest, o -> o.statement(4, 0, 0, 0, 0));
-        refused(ARGUMENT, "wrong, and 24 expressions", PromiseTest::planned24, o -> o.statement(COMPUTE, 6, 4, LESS, 4));
+        refused(ARGUMENT, "wrong, and 24 expressions", PromiseTest::planned24,
+                o -> o.statement(COMPUTE, 6, 4, LESS, 4));
     }
 
     private static void endInPlace() {

@@ -2,7 +2,7 @@ import java.util.NoSuchElementException;
 import java.util.function.Supplier;
 import java.util.function.ToLongFunction;
 
-/** What the tests of the document's sentences share: names for its numbers, programs, and the test of a refused call. */
+/** What the tests of the document's sentences share: names for its numbers, programs, the test of a refused call. */
 abstract class Sentences {
     static final Class<IllegalStateException> STATE = IllegalStateException.class;
     static final Class<IllegalArgumentException> ARGUMENT = IllegalArgumentException.class;

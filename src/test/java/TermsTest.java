@@ -15,7 +15,8 @@ public final class TermsTest extends Sentences {
         Check.sentence("An object is used for at most 512 calls after it has been made", TermsTest::calls512);
         Check.sentence("The constants: NONE = -1", TermsTest::none);
         Check.sentence("A PROGRAM has at most 16 BLOCKS", TermsTest::blocks16);
-        Check.sentence("numbered from 0 in the order in which they are made; 0 is the first one", TermsTest::firstBlock);
+        Check.sentence("numbered from 0 in the order in which they are made; 0 is the first one",
+                TermsTest::firstBlock);
         Check.sentence("A block has at most five STATEMENTS and an END", TermsTest::fiveStatements);
         Check.sentence("VARIABLES are 0 .. 5", TermsTest::variables);
         Check.sentence("SET x := n (a short number, -32768 .. 32767)", TermsTest::shortNumbers);
@@ -828,7 +829,7 @@ public final class TermsTest extends Sentences {
         Check.due("computed, and taken out of none", expressions(24).plan(), 0);
     }
 
-    /** 0 branches on 2; 1 computes 0+1, 2 does not; both go to 3, an endless loop, which wants all and asks for nothing. */
+    /** Of 1 and 2 only 1 computes 0+1; both go to 3, an endless loop, which wants all and asks for nothing. */
     private static LazyMotion unmoved() {
         LazyMotion m = blocks(1);
         m.end(0, BRANCH, 2, 1, 2);
@@ -842,7 +843,7 @@ public final class TermsTest extends Sentences {
         return m;
     }
 
-    /** That they are 0 at first can't be seen, as each is set before it is taken; that they are not the latest run's, can. */
+    /** That they are 0 at first can't be seen, as each is set before it is taken: so many runs, each with its own. */
     private static void temporaries() {
         LazyMotion m = diamond();
         m.statement(COMPUTE, 4, 0, MINUS, 1);
