@@ -78,11 +78,28 @@ public final class FaceTest {
     }
 
     private static void classesInside() {
-        for (Class<?> c : LazyMotion.class.getDeclaredClasses()) {
+        Class<?>[] inside = LazyMotion.class.getDeclaredClasses();
+        Check.due("classes are some twelve at most", inside.length < 12 ? 1 : 0, 1);
+        sizes(LazyMotion.class);
+        for (Class<?> c : inside) {
             int m = c.getModifiers();
             boolean good = Modifier.isStatic(m) && !Modifier.isPublic(m) && !Modifier.isProtected(m);
             Check.due("class " + c.getSimpleName() + " is static and not public", good ? 1 : 0, 1);
-            Check.due("fields of " + c.getSimpleName() + " are few", c.getDeclaredFields().length <= 26 ? 1 : 0, 1);
+            sizes(c);
+        }
+    }
+
+    /** Rules 5 and 11: what is static is final, and a class has few fields, a method few parameters. */
+    private static void sizes(Class<?> c) {
+        int fields = 0;
+        for (Field f : c.getDeclaredFields()) {
+            boolean loose = Modifier.isStatic(f.getModifiers()) && !Modifier.isFinal(f.getModifiers());
+            Check.due(c.getSimpleName() + "." + f.getName() + " is static, not final", loose ? 1 : 0, 0);
+            fields += Modifier.isStatic(f.getModifiers()) ? 0 : 1;
+        }
+        Check.due("fields of " + c.getSimpleName() + " are few", fields <= 20 ? 1 : 0, 1);
+        for (Method m : c.getDeclaredMethods()) {
+            Check.due("parameters of " + m.getName() + " are few", m.getParameterCount() <= 7 ? 1 : 0, 1);
         }
     }
 
